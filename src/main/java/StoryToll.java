@@ -353,7 +353,7 @@ public final class StoryToll {
         return number >= 0 && number < plots.size() ? plots.get(number) : null;
     }
 
-    /** Whether this one can tell the scene, as the beginning of a new plot or on in this row (null if there is none). */
+    /** Whether this one can tell the scene: as the beginning of a new plot, or on in this row, if it is not null. */
     private boolean canTell(Traveller teller, Scene next, Plot row) {
         if (teller.state != ON_THE_WAY || !teller.knows(next)) {
             return false;
@@ -463,8 +463,8 @@ public final class StoryToll {
         int most = -1;
         int candidates = last.followers & ~used;
         for (int i = 0; i < scenes.size() && candidates >> i != 0; i++) {
-            Scene next = scenes.get(i);
-            if ((candidates & next.asSet()) != 0) {
+            if ((candidates >> i & 1) != 0) {
+                Scene next = scenes.get(i);
                 int behind = next.kind == ENDING ? 0 : mostWonderBehind(scenes, next, used | next.asSet(), room - 1);
                 if (behind >= 0) {
                     most = Math.max(most, next.wonder + behind);
@@ -603,7 +603,6 @@ public final class StoryToll {
         int holder = NOBODY;
 
         Plot(Scene beginning) {
-            last = beginning;
             tellOn(beginning);
         }
 

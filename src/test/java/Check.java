@@ -28,18 +28,20 @@ final class Check {
         }
     }
 
-    /** The call throws exactly this exception, and changes nothing. */
+    /** The call throws exactly this exception, by a throw of the program's own, and changes nothing. */
     static void refused(String what, StoryToll gate, Class<? extends RuntimeException> want, Call call) {
         checked++;
         long before = gate.digest();
-        Class<?> thrown = null;
+        RuntimeException thrown = null;
         try {
             call.go();
         } catch (RuntimeException e) {
-            thrown = e.getClass();
+            thrown = e;
         }
-        if (thrown != want) {
+        if (thrown == null || thrown.getClass() != want) {
             wrong(what + " threw " + thrown + ", due is " + want);
+        } else if (!thrown.getStackTrace()[0].getClassName().startsWith("StoryToll")) {
+            wrong(what + " let the library throw " + thrown);
         }
         if (gate.digest() != before) {
             wrong(what + " threw and changed something");

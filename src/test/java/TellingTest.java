@@ -86,6 +86,17 @@ final class TellingTest {
         Check.due("6: asleep", 0, gate.guard(0, 0));
     }
 
+    private static void promise6AwakeWithOne() {
+        StoryToll gate = new StoryToll();
+        gate.make(0, 1, 0);
+        gate.post();
+        gate.come(1);
+        gate.watch(15);
+        gate.tell(0, 0, 0);
+        Check.due("6: patience 5 - 4", 1, gate.guard(0, 1));
+        Check.due("6: awake with 1", 1, gate.guard(0, 0));
+    }
+
     private static void promise6GreatestWorth() {
         StoryToll gate = Gates.story(1, 1);
         gate.tell(0, 0, 0);
@@ -294,7 +305,7 @@ final class TellingTest {
             gate.tell(1, plot % 2, 0);
         }
         gate.reserve(0, 0);
-        gate.reserve(0, 2);
+        gate.reserve(0, 3);
         gate.reserve(1, 1);
         Check.due("9: endings", 2, gate.traveller(0, 4));
         int paid = gate.traveller(0, 1);
@@ -303,7 +314,7 @@ final class TellingTest {
         Check.due("9: paid stays", paid, gate.traveller(0, 1));
         Check.due("9: no endings", 0, gate.traveller(0, 4));
         Check.due("9: free", -1, gate.plot(0, 2));
-        Check.due("9: free", -1, gate.plot(2, 2));
+        Check.due("9: free", -1, gate.plot(3, 2));
         Check.due("9: of another one", 1, gate.plot(1, 2));
         Check.due("9: on the way", 2, gate.count(6));
         Check.due("9: passed", 0, gate.count(7));
@@ -388,6 +399,7 @@ final class TellingTest {
         promise6MostPatience();
         promise6FallingAsleep();
         promise6NotBelowZero();
+        promise6AwakeWithOne();
         promise6GreatestWorth();
         promise6NoGuard();
         promise6NoIndex();

@@ -140,6 +140,9 @@ final class WhatIsThereTest {
         for (int what = 0; what <= 10; what++) {
             Check.due("16: count " + what, want[what], gate.count(what));
         }
+        gate.tell(1, 1, 0);
+        Check.due("16: one plot more", 4, gate.count(8));
+        Check.due("16: one open plot more", 3, gate.count(9));
         for (int no : NO_NUMBERS) {
             Check.noIndex("16: count " + no, gate, () -> gate.count(no));
         }

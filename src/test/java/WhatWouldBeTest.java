@@ -166,6 +166,20 @@ final class WhatWouldBeTest {
         Check.due("19: eight scenes", -1, gate.most(0));
     }
 
+    private static void promise19EndingsFirst() {
+        StoryToll gate = new StoryToll();
+        gate.make(2, 9, 0);
+        gate.make(1, 4, 0);
+        gate.make(0, 2, 0);
+        gate.follow(2, 1);
+        gate.follow(1, 0);
+        gate.come(7);
+        gate.tell(0, 2, 0);
+        Check.due("19: the numbers go backwards", 13, gate.most(0));
+        gate.follow(2, 0);
+        Check.due("19: the long way is the most", 13, gate.most(0));
+    }
+
     /** Seven middles, each of which can follow each other one. */
     private static void promise19ManyWays() {
         StoryToll gate = new StoryToll();
@@ -259,6 +273,7 @@ final class WhatWouldBeTest {
         promise19Most();
         promise19EightScenes();
         promise19FullPlot();
+        promise19EndingsFirst();
         promise19ManyWays();
         promise20Sleeps();
         promise21Mean();
