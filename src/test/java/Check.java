@@ -31,7 +31,7 @@ final class Check {
     /** The call throws exactly this exception, by a throw of the program's own, and changes nothing. */
     static void refused(String what, StoryToll gate, Class<? extends RuntimeException> want, Call call) {
         checked++;
-        long before = gate.digest();
+        long before = Gates.printOf(gate);
         RuntimeException thrown = null;
         try {
             call.go();
@@ -43,7 +43,7 @@ final class Check {
         } else if (!thrown.getStackTrace()[0].getClassName().startsWith("StoryToll")) {
             wrong(what + " let the library throw " + thrown);
         }
-        if (gate.digest() != before) {
+        if (Gates.printOf(gate) != before) {
             wrong(what + " threw and changed something");
         }
     }

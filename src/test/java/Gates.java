@@ -1,7 +1,12 @@
+import java.util.HashSet;
+import java.util.Set;
+
 /** Gates for tests. */
 final class Gates {
     /** All scenes of story(), as a set. */
     static final int ALL = 0b1111111;
+
+    private static final int[][] PAIRS_OF_STORY = {{0, 2}, {2, 3}, {3, 2}, {2, 4}, {3, 5}, {4, 6}, {1, 6}};
 
     private Gates() {
     }
@@ -19,10 +24,7 @@ final class Gates {
         gate.make(1, 4, 0);
         gate.make(2, 20, 4);
         gate.make(2, 7, 1);
-        int[][] pairs = {{0, 2}, {2, 3}, {3, 2}, {2, 4}, {3, 5}, {4, 6}, {1, 6}};
-        for (int[] pair : pairs) {
-            gate.follow(pair[0], pair[1]);
-        }
+        tellPairs(gate, PAIRS_OF_STORY);
         return gate;
     }
 
@@ -34,6 +36,76 @@ final class Gates {
         }
         for (int i = 0; i < travellers; i++) {
             gate.come(ALL);
+        }
+        return gate;
+    }
+
+    /**
+     * A gate with all that there can be: 24 scenes (0 to 3 beginnings, 4 to 19 middles, 20 to 23 endings), 60 pairs,
+     * 4 guards, 12 travellers who know all scenes, and 8 plots, the plot p begun by the traveller p with the scene p % 4.
+     */
+    static StoryToll full() {
+        StoryToll gate = new StoryToll();
+        for (int i = 0; i < 24; i++) {
+            gate.make(i < 4 ? 0 : i < 20 ? 1 : 2, 1 + i * 7 % 20, i % 6);
+        }
+        tellPairs(gate, pairsOfFull());
+        for (int i = 0; i < 4; i++) {
+            gate.post();
+        }
+        for (int i = 0; i < 12; i++) {
+            gate.come((1 << 24) - 1);
+        }
+        for (int plot = 0; plot < 8; plot++) {
+            gate.tell(plot, plot % 4, 0);
+        }
+        return gate;
+    }
+
+    static Set<Integer> booksOfStory() {
+        return booksOf(PAIRS_OF_STORY);
+    }
+
+    static Set<Integer> booksOfFull() {
+        return booksOf(pairsOfFull());
+    }
+
+    private static int[][] pairsOfFull() {
+        int[][] pairs = new int[60][];
+        for (int i = 0; i < 16; i++) {
+            pairs[i] = new int[] {4 + i, 4 + (i + 1) % 16};
+            pairs[16 + i] = new int[] {4 + i, 4 + (i + 3) % 16};
+            pairs[32 + i] = new int[] {4 + i, 20 + i % 4};
+        }
+        for (int i = 0; i < 4; i++) {
+            pairs[48 + i] = new int[] {i, 4 + i};
+            pairs[52 + i] = new int[] {i, 12 + i};
+            pairs[56 + i] = new int[] {i, 20 + i};
+        }
+        return pairs;
+    }
+
+    private static void tellPairs(StoryToll gate, int[][] pairs) {
+        for (int[] pair : pairs) {
+            gate.follow(pair[0], pair[1]);
+        }
+    }
+
+    /** The pairs as Rules wants them. */
+    private static Set<Integer> booksOf(int[][] pairs) {
+        Set<Integer> books = new HashSet<>();
+        for (int[] pair : pairs) {
+            books.add(pair[0] * 24 + pair[1]);
+        }
+        return books;
+    }
+
+    /** A gate with one guard who is awake with this patience, 1 to 20. Nothing else. */
+    static StoryToll guardWithPatience(int patience) {
+        StoryToll gate = new StoryToll();
+        gate.post();
+        if (patience < 20) {
+            gate.watch(20 - patience);
         }
         return gate;
     }
@@ -68,5 +140,23 @@ final class Gates {
             }
         }
         return d;
+    }
+
+    /** A number made of all that the gate answers, of what would be too, as the digest does not hold all that it knows. */
+    static long printOf(StoryToll gate) {
+        long print = gate.digest();
+        for (int guard = 0; guard < gate.count(3); guard++) {
+            print = print * 31 + gate.sleeps(guard);
+            for (int scene = 0; scene < gate.count(1); scene++) {
+                print = print * 31 + gate.worth(guard, scene);
+            }
+        }
+        for (int plot = 0; plot < gate.count(8); plot++) {
+            print = print * 31 + gate.most(plot);
+            for (int traveller = 0; traveller < gate.count(5); traveller++) {
+                print = print * 31 + gate.best(traveller, plot);
+            }
+        }
+        return print * 31 + Double.doubleToLongBits(gate.mean());
     }
 }

@@ -39,7 +39,7 @@ final class RandomRunsTest {
             case 5: return new int[] {5, number(gate.count(5)), number(gate.count(8))};
             case 6: return new int[] {6, random.nextInt(3) > 0 ? -1 : number(gate.count(5))};
             case 7: return new int[] {7, random.nextInt(4) > 0 ? -1 : number(gate.count(5))};
-            default: return new int[] {8, random.nextInt(25)};
+            default: return new int[] {8, random.nextInt(30) == 0 ? 95 + random.nextInt(10) : random.nextInt(25)};
         }
     }
 
@@ -71,10 +71,14 @@ final class RandomRunsTest {
         for (int guard = 0; guard < awake.length; guard++) {
             awake[guard] = gate.guard(guard, 0) == 1;
         }
-        long before = gate.digest();
+        Class<? extends RuntimeException> due = Rules.refusal(gate, pairs, call);
+        long before = due != null ? Gates.printOf(gate) : 0;
         int answer = run.call(gate, call);
+        if (run.refusal() != due) {
+            Check.wrong(Run.nameOf(call) + " threw " + run.refusal() + ", due is " + due);
+        }
         if (answer == Run.REFUSED) {
-            Check.due(Run.nameOf(call) + " is refused and changes nothing", before, gate.digest());
+            Check.due(Run.nameOf(call) + " is refused and changes nothing", before, Gates.printOf(gate));
         } else if (call[0] == 1) {
             pairs.add(call[1] * 24 + call[2]);
             Check.due("pairs", pairs.size(), answer);

@@ -8,14 +8,24 @@ final class Run {
     private static final String[] NAMES = {"make", "follow", "post", "come", "tell", "reserve", "pass", "send", "watch"};
 
     private final List<int[]> calls = new ArrayList<>();
+    private Class<? extends RuntimeException> refusal;
 
     /** Makes a call (its number among NAMES, and its arguments), and keeps it if it was not refused. */
     int call(StoryToll gate, int... call) {
-        int answer = answerOf(gate, call);
-        if (answer != REFUSED) {
+        refusal = null;
+        try {
+            int answer = made(gate, call);
             calls.add(call);
+            return answer;
+        } catch (RuntimeException e) {
+            refusal = e.getClass();
+            return REFUSED;
         }
-        return answer;
+    }
+
+    /** The exception of the last call, null if it threw none. */
+    Class<? extends RuntimeException> refusal() {
+        return refusal;
     }
 
     StoryToll playedAgain() {
@@ -36,19 +46,23 @@ final class Run {
 
     static int answerOf(StoryToll gate, int... call) {
         try {
-            switch (call[0]) {
-                case 0: return gate.make(call[1], call[2], call[3]);
-                case 1: return gate.follow(call[1], call[2]);
-                case 2: return gate.post();
-                case 3: return gate.come(call[1]);
-                case 4: return gate.tell(call[1], call[2], call[3]);
-                case 5: return gate.reserve(call[1], call[2]);
-                case 6: return gate.pass(call[1]) ? 1 : 0;
-                case 7: return gate.send(call[1]);
-                default: return gate.watch(call[1]);
-            }
+            return made(gate, call);
         } catch (IndexOutOfBoundsException | IllegalArgumentException | IllegalStateException e) {
             return REFUSED;
+        }
+    }
+
+    static int made(StoryToll gate, int... call) {
+        switch (call[0]) {
+            case 0: return gate.make(call[1], call[2], call[3]);
+            case 1: return gate.follow(call[1], call[2]);
+            case 2: return gate.post();
+            case 3: return gate.come(call[1]);
+            case 4: return gate.tell(call[1], call[2], call[3]);
+            case 5: return gate.reserve(call[1], call[2]);
+            case 6: return gate.pass(call[1]) ? 1 : 0;
+            case 7: return gate.send(call[1]);
+            default: return gate.watch(call[1]);
         }
     }
 }

@@ -338,19 +338,6 @@ final class TellingTest {
         Check.due("9: told by another one", 0, gate.plot(0, 1));
     }
 
-    /** The document says no exception for an ending that is told already: it is free, too. */
-    private static void promise9ToldEnding() {
-        StoryToll gate = Gates.story(1, 2);
-        gate.tell(0, 1, 0);
-        gate.reserve(0, 0);
-        gate.tell(0, 6, 0);
-        Check.due("9: once it is told", 0, gate.plot(0, 2));
-        Check.due("9: endings", 1, gate.traveller(0, 4));
-        gate.send(0);
-        Check.due("9: free behind send", -1, gate.plot(0, 2));
-        Check.due("9: no endings", 0, gate.traveller(0, 4));
-    }
-
     private static void promise10Watch() {
         StoryToll gate = new StoryToll();
         int[] wrong = {0, -1, 101, Integer.MIN_VALUE, Integer.MAX_VALUE};
@@ -414,7 +401,6 @@ final class TellingTest {
         promise8NobodyAwake();
         promise9Send();
         promise9FreeToTell();
-        promise9ToldEnding();
         promise10Watch();
         promise10ManyWatches();
         Check.end();
